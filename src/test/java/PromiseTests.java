@@ -519,7 +519,13 @@ public final class PromiseTests {
         // By hand: from 1 come 16838 and 38526: of ten 8, ask, of three 0.
         due("18 asked", x.drawn(0, 1, 1, 4), 1);
         due("18 found", x.drawn(0, 1, 1, 5), 1);
-        due("18 tunes without goers", fair("").drawn(0, 1, 1, 0), 0);
+        // With eight 38526 is 6; without any no further number is drawn, so 38526, of ten 6, does nothing, either.
+        due("18 asked of eight", fair("goer 0 0;".repeat(8)).drawn(0, 1, 1, 4), 64);
+        due("18 nothing is done without goers", fair("").drawn(0, 1, 2, 0), 0);
+        // With one: 16838 and 38526 ask him; 10113, of ten 3, walk, 50283 him, to 63819 and 38395, of ten each.
+        x = fair("goer 0 0;");
+        due("18 walks, x", x.drawn(0, 1, 2, 10), 9);
+        due("18 walks, y", x.drawn(0, 1, 2, 20), 5);
     }
 
     private static void upright() {
@@ -547,6 +553,12 @@ public final class PromiseTests {
         due("19 BROAD, how many", x.upright(0, 9), 1);
         due("19 HEARD by few", fair("goer 0 0;goer 5 6;minds 0 1 9;").upright(0, 3), 2);
         due("19 IDLE, one is enough", fair("goer 5 5;minds 0 0 1;minds 0 0 1;wrong 0 0 1;").upright(0, 4), 3);
+        x = fair("stand 0 9;goer 0 0;goer 9 9;");
+        due("19 TREE of the corners", x.upright(0, 5), 18);
+        due("19 NEAREST, as far as can be", x.upright(0, 6), 1);
+        due("19 NEAREST, as far as can be", x.upright(0, 7), 18);
+        x = fair("goer 0 0;goer 5 6;goer 9 0;goer 4 6;goer 5 7;");
+        due("19 NEAREST, of several the least", x.upright(0, 6), 13);
         due("19 BROAD of none", fair("minds 0 0 1;").upright(0, 8), 0);
         due("19 WORST of the good", fair("goer 0 0;goer 0 0;").upright(0, 1), 0);
     }
@@ -716,6 +728,11 @@ public final class PromiseTests {
             due("37 other fault", x.fault(0), 0);
             due("37 other tape", x.end(1), NONE);
         }
+        due("36 image 0", x.image(0), true);
+        due("37 image 1 is as it was", x.again(1), true);
+        due("37 image 1 is as it was", x.fair(0, 2), 4);
+        due("37 image 0", x.again(0), true);
+        due("37 image 0", x.fair(0, 2), 7);
         due("36 over itself", x.image(1), true);
         due("37 over itself", x.again(1), true);
         due("37 over itself", x.fair(0, 2), 7);
