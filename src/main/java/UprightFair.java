@@ -46,7 +46,7 @@ public final class UprightFair {
             images[k] = new Told();
         }
         taken = new boolean[IMAGES];
-        reader = new Reader(told);
+        reader = new Reader();
         stage = new Stage();
         ways = new Ways();
         folk = new Folk();
@@ -74,14 +74,14 @@ public final class UprightFair {
     }
 
     public int text(int sort, int at) {
-        told.fault = 0;
-        told.place = NONE;
         int number = told.numberFor(sort, at);
+        reader.takeTape(told);
         if (number < 0) {
+            told.fault = 0;
+            told.place = NONE;
             return MISSING;
         }
         reader.read(sort);
-        told.length = 0;
         told.fault = reader.fault;
         told.place = reader.place;
         if (reader.fault != 0) {
@@ -972,11 +972,6 @@ public final class UprightFair {
             }
         }
 
-        /** The byte at a place of the tape; 0, which no text has, behind its end. */
-        int byteAt(int at) {
-            return at >= 0 && at < length && at < TAPE ? tape[at] : 0;
-        }
-
         boolean has(int sort, int n) {
             return n >= 0 && n < OF_A_SORT && n < Sums.at(sizes, sort);
         }
@@ -1047,7 +1042,8 @@ public final class UprightFair {
         final Ledger ledger = new Ledger();
         int fault;
         int place;
-        private final Told told;
+        private final byte[] tape = new byte[TAPE];
+        private int length;
         private final int[] numbers = new int[4];
         private int at;
         private int start;
@@ -1055,8 +1051,11 @@ public final class UprightFair {
         private int value;
         private int toldOf;
 
-        Reader(Told told) {
-            this.told = told;
+        /** The tape is empty then, whether or not a text is read from what it had. */
+        void takeTape(Told from) {
+            System.arraycopy(from.tape, 0, tape, 0, TAPE);
+            length = from.length;
+            from.length = 0;
         }
 
         void read(int sort) {
@@ -1072,7 +1071,7 @@ public final class UprightFair {
                 place = start;
             }
             if (toldOf >> fair.goers != 0) {
-                blame(4, told.length);
+                blame(4, length);
             }
         }
 
@@ -1193,19 +1192,19 @@ public final class UprightFair {
 
         /** The next token: what it is, where it starts, the number that it is. */
         private void step() {
-            while (at < told.length && isBlank(told.byteAt(at))) {
+            while (at < length && isBlank(byteAt(at))) {
                 at++;
             }
             start = at;
-            int b = told.byteAt(at);
-            if (at >= told.length) {
+            int b = byteAt(at);
+            if (at >= length) {
                 token = OVER;
             } else if (b == ';') {
                 token = MARK;
                 at++;
             } else if (isLetter(b)) {
                 token = WORD;
-                while (at < told.length && isLetter(told.byteAt(at))) {
+                while (at < length && isLetter(byteAt(at))) {
                     at++;
                 }
             } else if (isDigit(b)) {
@@ -1217,11 +1216,16 @@ public final class UprightFair {
 
         private void stepOverDigits() {
             value = 0;
-            while (at < told.length && isDigit(told.byteAt(at))) {
-                value = 10 * value + told.byteAt(at) - '0';
+            while (at < length && isDigit(byteAt(at))) {
+                value = 10 * value + byteAt(at) - '0';
                 at++;
             }
             token = at - start <= 2 ? NUMBER : BAD;
+        }
+
+        /** The byte at a place of the tape; 0, which no text has, behind its end. */
+        private int byteAt(int n) {
+            return n >= 0 && n < length && n < TAPE ? tape[n] : 0;
         }
 
         private static boolean isBlank(int b) {
@@ -1250,7 +1254,7 @@ public final class UprightFair {
                 return false;
             }
             for (int i = 0; i < name.length(); i++) {
-                if (told.byteAt(start + i) != name.charAt(i)) {
+                if (byteAt(start + i) != name.charAt(i)) {
                     return false;
                 }
             }

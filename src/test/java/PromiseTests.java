@@ -87,15 +87,41 @@ public final class PromiseTests {
         due("5 another what", x.fault(2), NONE);
         due("5 another what", x.fault(-1), NONE);
         Check.tape(x, "slant 3;");
-        due("4 no such sort", x.text(3, NONE), -2);
-        due("5 FAULT 0", x.fault(0), 0);
-        due("5 no place", x.fault(1), NONE);
-        due("4 no text is read, the tape stays", x.text(0, 1), 1);
+        due("4 in the place of one", x.text(0, 1), 1);
         due("4 in the place", x.fair(1, 2), 3);
         due("4 the other stays", x.fair(0, 2), 0);
         Check.tape(x, "slant 4;stand 0 0");
         due("4 a fault in the place of one", x.text(0, 1), NONE);
         due("4 which stays", x.fair(1, 2), 3);
+    }
+
+    /** Every text() takes the tape, also one that reads no text. */
+    private static void refusedTexts() {
+        int[][] refused = {{0, 0}, {0, 1}, {1, 0}, {2, 0}, {0, -2}, {0, 2}, {3, NONE}, {-1, NONE}, {3, 0}};
+        for (int[] to : refused) {
+            UprightFair x = new UprightFair();
+            due("4 a fault", Check.tell(x, 0, "slant 10;"), NONE);
+            Check.tape(x, "slant 3;");
+            due("4 refused", x.text(to[0], to[1]), -2);
+            due("4 the tape is empty then", x.end(1), NONE);
+            due("5 FAULT 0", x.fault(0), 0);
+            due("5 no place", x.fault(1), NONE);
+            due("2 behind an empty tape", x.feed(0x20202020, 0x20202020, 0x20202020, 0x20202020, 0x20202020), 20);
+            due("4 no text is read", x.count(0), 0);
+            due("4 what came since alone", x.text(0, NONE), 0);
+            due("4 nothing of the refused one", x.fair(0, 2), 0);
+        }
+        for (int sort = 0; sort < 3; sort++) {
+            UprightFair x = new UprightFair();
+            due("4 the first", x.text(sort, NONE), 0);
+            due("4 the second", x.text(sort, NONE), 1);
+            Check.tape(x, "tune");
+            due("4 as many as may be", x.text(sort, NONE), -2);
+            due("4 the tape is empty then", x.end(1), NONE);
+            due("5 FAULT 0 of no text", x.fault(0), 0);
+            due("4 an image has it so", x.image(0) && x.feed(0, 0, 0, 0, 0) == 20 && x.again(0), true);
+            due("37 the empty tape again", x.end(1), NONE);
+        }
     }
 
     private static void fault(int sort, String text, int fault, int place) {
@@ -742,6 +768,7 @@ public final class PromiseTests {
         newObject();
         tape();
         texts();
+        refusedTexts();
         faultsOfForm();
         faultsOfNumbers();
         faultsOfMany();
