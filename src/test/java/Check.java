@@ -33,8 +33,12 @@ final class Check {
     }
 
     static int tell(UprightFair x, int sort, String text) {
+        return tellAt(x, sort, UprightFair.NONE, text);
+    }
+
+    static int tellAt(UprightFair x, int sort, int at, String text) {
         tape(x, text);
-        return x.text(sort, UprightFair.NONE);
+        return x.text(sort, at);
     }
 
     static UprightFair with(int sort, String text) {
@@ -43,6 +47,43 @@ final class Check {
             throw new IllegalStateException("no text: " + text);
         }
         return x;
+    }
+
+    /** Two of each sort, with as much in them as may be. */
+    static UprightFair full() {
+        UprightFair x = new UprightFair();
+        fill(x);
+        return x;
+    }
+
+    static void fill(UprightFair x) {
+        for (int i = 0; i < 2; i++) {
+            for (int sort = 0; sort < 3; sort++) {
+                if (tell(x, sort, Full.text(sort)) != i) {
+                    throw new IllegalStateException("not filled: " + Full.text(sort));
+                }
+            }
+        }
+    }
+
+    /** All that is told, how long the tape is and the FAULT too, if wanted. */
+    static String print(UprightFair x, boolean tapeToo) {
+        StringBuilder b = new StringBuilder();
+        for (int n = 0; n < 2; n++) {
+            b.append(x.count(0)).append(x.count(1)).append(x.count(2)).append(':');
+            for (int what = 0; what < 260; what++) b.append(x.fair(n, what)).append(' ');
+            b.append(x.deed(n, -1, 0)).append(':');
+            for (int k = 0; k < 40; k++) for (int what = 0; what < 4; what++) b.append(x.deed(n, k, what)).append(' ');
+            for (int what = 0; what < 30; what++) b.append(x.log(n, what)).append(' ');
+        }
+        if (tapeToo) {
+            b.append(x.fault(0)).append(' ').append(x.fault(1)).append(' ');
+            // From above, the first end() that is not refused cuts nothing.
+            int bytes = 600;
+            while (x.end(bytes) != bytes) bytes--;
+            b.append(bytes);
+        }
+        return b.toString();
     }
 
     void end(String name) {
