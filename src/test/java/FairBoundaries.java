@@ -339,7 +339,8 @@ public final class FairBoundaries {
         walk("goer 5 5;minds 0 9 1;wrong 0 0 1;", 0, 10, 0);
         walk("stand 0 0;goer 0 0;minds 0 17 1;wrong 0 0 1;", 0, 18, 99);
         walk("stand 0 0;goer 0 0;minds 0 18 1;wrong 0 0 1;", 0, NONE, NONE);
-        walk("stand 0 9;goer 0 9;minds 0 18 1;wrong 0 0 1;", 0, NONE, NONE);
+        walk("stand 0 9;goer 9 0;minds 0 18 1;wrong 0 0 1;", 0, NONE, NONE);
+        walk("stand 0 9;goer 9 0;minds 0 17 1;wrong 0 0 1;", 0, 0, 90);
         walk("stand 9 9;goer 9 9;minds 0 0 1;wrong 0 0 1;", 0, 1, 89);
         walk("stand 0 0;goer 0 0;minds 0 0 1;wrong 0 0 1;", 0, 1, 1);
         walk(EIGHT + "minds 0 1 9;wrong 7 0 9;", 7, 2, 35);

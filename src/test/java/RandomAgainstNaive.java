@@ -303,19 +303,38 @@ public final class RandomAgainstNaive {
         check.due(t + " needless", x.small(0, 3), needless);
     }
 
+    /** Six MINDS, eight GOERS, six CONFESSIONS, six TOWNS. */
+    private static Naive.Fair fullFair() {
+        Naive.Fair f = new Naive.Fair();
+        f.stand = new int[] {0, 9};
+        f.slant = 9;
+        f.minds.addAll(List.of(Full.MINDS));
+        f.goers.addAll(List.of(Full.GOERS));
+        f.confessions.addAll(List.of(Full.CONFESSIONS));
+        f.towns.addAll(List.of(Full.TOWNS));
+        for (int[] w : Full.WRONGS) f.wrongs[w[0]][w[1]] = w[2];
+        return f;
+    }
+
+    private static void all(Naive.Fair f, int turns) {
+        String t = f.text();
+        UprightFair x = Check.with(0, t);
+        asTold(x, f, t);
+        towns(x, f, t);
+        confessions(x, f, t);
+        goers(x, f, t);
+        upright(x, f, t);
+        ground(x, f, t);
+        turns(x, f, t, turns);
+        day(x, f, t);
+    }
+
     public static void main(String[] args) {
+        check.due("the full FAIR", fullFair().text().equals(Full.text(0)), true);
+        all(fullFair(), 4);
+        all(new Naive.Fair(), 4);
         for (int i = 0; i < 400; i++) {
-            Naive.Fair f = someFair(i % 7);
-            String t = f.text();
-            UprightFair x = Check.with(0, t);
-            asTold(x, f, t);
-            towns(x, f, t);
-            confessions(x, f, t);
-            goers(x, f, t);
-            upright(x, f, t);
-            ground(x, f, t);
-            turns(x, f, t, i % 20 == 6 ? 4 : 3);
-            day(x, f, t);
+            all(someFair(i % 7), i % 20 == 6 ? 4 : 3);
             log();
         }
         check.end("RandomAgainstNaive");
