@@ -80,7 +80,7 @@ final class Check {
             b.append(x.fault(0)).append(' ').append(x.fault(1)).append(' ');
             // From above, the first end() that is not refused cuts nothing.
             int bytes = 600;
-            while (x.end(bytes) != bytes) bytes--;
+            while (bytes > 0 && x.end(bytes) != bytes) bytes--;
             b.append(bytes);
         }
         return b.toString();

@@ -1,3 +1,4 @@
+import java.lang.reflect.Field;
 import java.lang.reflect.Method;
 import java.lang.reflect.Modifier;
 import java.nio.file.Files;
@@ -12,10 +13,6 @@ import java.util.stream.Collectors;
 /** The rules of LANGUAGE.md that a look at the source and the class can tell. Run from the project's folder. */
 public final class LanguageRules {
     private static final Check check = new Check();
-    private static final String FACE =
-        "after again asking byTurns calm centre confess count deed drawn end fair fault feed fits forget guess image ladder log"
-        + " mend next odds plays purse quiet ring round route share small state text till upright walk";
-
     private static String bare(String source) {
         return source.replaceAll("(?s)/\\*.*?\\*/", " ").replaceAll("//[^\n]*", " ").replaceAll("\"[^\"\n]*\"", "\"\"");
     }
@@ -25,20 +22,51 @@ public final class LanguageRules {
         check.due(what + (code.isEmpty() ? "" : " in the source"), m.find(), false);
     }
 
-    private static void face() {
-        Set<String> open = new TreeSet<>();
-        for (Method m : UprightFair.class.getDeclaredMethods()) {
-            if (!Modifier.isPrivate(m.getModifiers())) {
-                open.add(m.getName());
-            }
+    /** The document's own lines, with names of parameters struck. */
+    private static Set<String> dueFace() throws Exception {
+        String doc = Files.readString(Path.of("../shared/DOC.md"));
+        Set<String> due = new TreeSet<>();
+        Matcher m = Pattern.compile("(?m)^    public (\\w+ \\w+)\\((.*)\\);$").matcher(doc);
+        while (m.find()) {
+            due.add(m.group(1) + "(" + m.group(2).replaceAll("(\\w+) \\w+", "$1") + ")");
         }
-        check.due("rule 1: the face is " + open, open.equals(new TreeSet<>(Arrays.asList(FACE.split(" ")))), true);
+        return due;
+    }
+
+    private static String signature(Method m) {
+        String types = Arrays.stream(m.getParameterTypes()).map(Class::getName).collect(Collectors.joining(", "));
+        return m.getReturnType().getName() + " " + m.getName() + "(" + types + ")";
+    }
+
+    private static void face() throws Exception {
+        Set<String> open = new TreeSet<>();
+        Set<String> names = new TreeSet<>();
+        for (Method m : UprightFair.class.getDeclaredMethods()) {
+            if (Modifier.isPrivate(m.getModifiers())) {
+                continue;
+            }
+            open.add(signature(m));
+            names.add(m.getName());
+            check.due("rule 1: public and no more, " + m, m.getModifiers(), Modifier.PUBLIC);
+        }
+        Set<String> due = dueFace();
+        check.due("the document's calls", due.size(), 36);
+        check.due("rule 1: the face is " + open, open.equals(due), true);
+        check.due("rule 1: constructors", UprightFair.class.getDeclaredConstructors().length, 1);
+        check.due("rule 1: public constructors", UprightFair.class.getConstructors().length, 1);
+        for (Method m : UprightFair.class.getDeclaredMethods()) {
+            check.due("rule 1: a private name " + m, Modifier.isPrivate(m.getModifiers()) && names.contains(m.getName()), false);
+        }
+        for (Field f : UprightFair.class.getDeclaredFields()) {
+            check.due("rule 1: private " + f, Modifier.isPrivate(f.getModifiers()), !f.getName().equals("NONE"));
+        }
+        check.due("rule 1: NONE", UprightFair.class.getField("NONE").getModifiers(), Modifier.PUBLIC | Modifier.STATIC | Modifier.FINAL);
         check.due("rule 1: final", Modifier.isFinal(UprightFair.class.getModifiers()), true);
         check.due("rule 1: one public field", UprightFair.class.getFields().length, 1);
         for (Class<?> inside : UprightFair.class.getDeclaredClasses()) {
             check.due("rule 2: static " + inside, Modifier.isStatic(inside.getModifiers()), true);
             for (Method m : inside.getDeclaredMethods()) {
-                check.due("rule 1: name " + m, open.contains(m.getName()), false);
+                check.due("rule 1: name " + m, names.contains(m.getName()), false);
                 check.due("rule 11: parameters of " + m, m.getParameterCount() <= 7, true);
             }
             check.due("rule 11: fields of " + inside, Arrays.stream(inside.getDeclaredFields()).filter(f -> !Modifier.isStatic(f.getModifiers())).count() <= 20, true);

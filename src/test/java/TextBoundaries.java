@@ -103,9 +103,9 @@ public final class TextBoundaries {
     /** A tape that begins with a tune, so many bytes long, blanks behind. */
     private static UprightFair filled(int bytes) {
         UprightFair x = new UprightFair();
-        int had = 0;
-        while (had < bytes) {
-            had = had == 0 ? x.feed(0x74756e65, 0x3b202020, BLANKS, BLANKS, BLANKS) : feedBlanks(x);
+        x.feed(0x74756e65, 0x3b202020, BLANKS, BLANKS, BLANKS);
+        for (int fed = 20; fed < bytes; fed += 20) {
+            feedBlanks(x);
         }
         x.end(bytes);
         return x;
@@ -216,6 +216,11 @@ public final class TextBoundaries {
         due("4 the spoilt one leaves nothing", y.fair(0, 40), 3);
     }
 
+    private static void stays(UprightFair x) {
+        due("5 it stays until the next text()", x.fault(0), 2);
+        due("5 its place stays", x.fault(1), 6);
+    }
+
     private static void faultOfTheLatest() {
         UprightFair x = new UprightFair();
         Check.tell(x, 0, "slant 10;");
@@ -228,8 +233,17 @@ public final class TextBoundaries {
         x.image(0);
         x.count(0);
         x.fair(0, 0);
-        due("5 it stays until the next text()", x.fault(0), 2);
-        due("5 its place stays", x.fault(1), 6);
+        stays(x);
+        for (int i = 0; i < 30; i++) {
+            feedBlanks(x);
+        }
+        due("2 refused", feedBlanks(x), NONE);
+        stays(x);
+        due("3 refused", x.end(-1), NONE);
+        due("37 refused", x.again(1), false);
+        stays(x);
+        due("3 nothing is left", x.end(0), 0);
+        stays(x);
         due("4 a text", x.text(0, NONE), 0);
         due("5 none then", x.fault(0), 0);
         due("5 no place then", x.fault(1), NONE);

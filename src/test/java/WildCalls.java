@@ -104,9 +104,15 @@ public final class WildCalls {
         for (int i = 0; i < 500; i++) {
             lot.setSeed(i);
             UprightFair x = someObject();
+            if (i % 2 == 0) {
+                Check.tellAt(x, 0, 0, "slant 10;");
+                Check.tape(x, "slant 3;");
+            }
+            String before = Check.print(x, true);
             long once = answers(x, 1000 + i);
             answers(x, 2000 + i);
             check.due("the same calls answer the same", answers(x, 1000 + i), once);
+            check.due("all that is told is as it was", Check.print(x, true).equals(before), true);
         }
     }
 
